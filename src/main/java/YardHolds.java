@@ -13,6 +13,7 @@ public final class YardHolds {
 
     /** The room of each track; 0 says that the track is not there. */
     private final int[] rooms;
+    /** How many wagons each track has; 0 for one that is not there, too. */
     private final int[] counts;
     /** All rows in one array, MOST_ROOM places for each track; see place(). */
     private final int[] wagons;
@@ -38,7 +39,6 @@ public final class YardHolds {
             return 0;
         }
         rooms[track] = room;
-        counts[track] = 0;
         return 1;
     }
 

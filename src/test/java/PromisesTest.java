@@ -259,12 +259,15 @@ public final class PromisesTest {
         dueTold("tour", x, 9, 9, 0, 1, 3, 3);
         due("tour 0 1 0 3", x.tour(row(0, 1, 0, 3), 4), 0);
         dueTold("tour that ends", x, 11, 11, 0, 1, 0, 3);
+        due("couple(2, 40)", x.couple(2, 40), 1);
+        due("tour 2 1 3", x.tour(row(2, 1, 3), 3), 40);
+        dueTold("tour that ends with a sum", x, 14, 14, 0, 1, 1, 3);
         fill(x, 7, 12, 1, 2, 3, 4, 5, 6, 7, 8, 10, 11, 12, 13);
         due("tour of 12", x.tour(-1L, 12), 82);
         dueRow("tour of 12", x, 7);
-        dueTold("tour of 12", x, 35, 35, 0, 1, 12, 4);
+        dueTold("tour of 12", x, 38, 38, 0, 1, 12, 4);
         due("tour of 16", x.tour(0L, 16), 0);
-        dueTold("tour of 16", x, 51, 51, 0, 1, 0, 4);
+        dueTold("tour of 16", x, 54, 54, 0, 1, 0, 4);
     }
 
     private static void promise8TourFails() {
@@ -368,6 +371,9 @@ public final class PromisesTest {
         due("swap(0, 1) as much as there is room", x.swap(0, 1), 3);
         dueRow("swap with none", x, 0, 1, 2, 3);
         dueRow("swap with none", x, 1);
+        fill(x, 2, 3);
+        due("swap(0, 2) as much as there is room", x.swap(0, 2), 0);
+        dueRow("swap to a full one", x, 2, 1, 2, 3);
     }
 
     private static void promise12SwapFails() {
