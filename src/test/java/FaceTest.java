@@ -29,8 +29,15 @@ public final class FaceTest {
         for (Constructor<?> c : YardHolds.class.getDeclaredConstructors()) {
             if (!Modifier.isPrivate(c.getModifiers())) seen.add(c.toString());
         }
+        Set<String> publicNames = new TreeSet<>();
         for (Method m : YardHolds.class.getDeclaredMethods()) {
-            if (!Modifier.isPrivate(m.getModifiers())) seen.add(m.toString());
+            if (Modifier.isPrivate(m.getModifiers())) continue;
+            seen.add(m.toString());
+            publicNames.add(m.getName());
+        }
+        // LANGUAGE.md, rule 1: no private method bears the name of a public one.
+        for (Method m : YardHolds.class.getDeclaredMethods()) {
+            if (Modifier.isPrivate(m.getModifiers()) && publicNames.contains(m.getName())) seen.add(m.toString());
         }
         int modifiers = YardHolds.class.getModifiers();
         boolean well = seen.equals(new TreeSet<>(FACE)) && Modifier.isFinal(modifiers) && Modifier.isPublic(modifiers);
