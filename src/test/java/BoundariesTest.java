@@ -1,6 +1,7 @@
 /**
- * One test for each sentence of the document that names a boundary case. The tables of main quote the
- * sentence beside its test; a wrong answer is printed with the sentence that it breaks.
+ * Each sentence of the document that names a boundary case has a test of its own, or several where it names
+ * several cases. The tables of main name the sentence, in the document's words or close to them, beside its
+ * test; a wrong answer is printed with the sentence that it breaks.
  */
 public final class BoundariesTest {
     private static final int BAD = -2, MISSING = -3, FULL = -4, EMPTY = -5;
@@ -12,7 +13,7 @@ public final class BoundariesTest {
     private static final int MOST_CALLS = 512;
 
     private static String sentence = "";
-    private static int sentences = 0;
+    private static int cases = 0;
     private static int wrong = 0;
 
     public static void main(String[] args) {
@@ -21,7 +22,7 @@ public final class BoundariesTest {
         promises6To8();
         promises9To12();
         promises13And14();
-        System.out.println(wrong == 0 ? sentences + " sentences hold" : wrong + " answers are not as due");
+        System.out.println(wrong == 0 ? cases + " boundary cases hold" : wrong + " answers are not as due");
         if (wrong != 0) System.exit(1);
     }
 
@@ -152,7 +153,7 @@ public final class BoundariesTest {
 
     private static void says(String words, Runnable test) {
         sentence = words;
-        sentences++;
+        cases++;
         try {
             test.run();
         } catch (RuntimeException thrown) {
