@@ -26,6 +26,7 @@ public final class PromisesTest {
         promise13Wagon();
         promise14Told();
         badChangesNothing();
+        exampleOfTheReadme();
         System.out.println(wrong == 0 ? "all promises hold" : wrong + " answers are not as due");
         if (wrong != 0) System.exit(1);
     }
@@ -451,5 +452,20 @@ public final class PromisesTest {
         dueTold("BAD calls", x, 4, 4, 0, 2, 1, 2);
         dueRow("BAD calls", x, 0, 1);
         dueRow("BAD calls", x, 1, 2);
+    }
+
+    /** README.md shows these calls with these answers; whoever changes one of the two changes both. */
+    private static void exampleOfTheReadme() {
+        YardHolds yard = new YardHolds();
+        due("lay(0, 4)", yard.lay(0, 4), 1);
+        due("lay(1, 2)", yard.lay(1, 2), 1);
+        due("couple(0, 17)", yard.couple(0, 17), 1);
+        due("couple(0, 30)", yard.couple(0, 30), 2);
+        due("shunt(0, 1, 1)", yard.shunt(0, 1, 1), 1);
+        due("wagon(1, 0)", yard.wagon(1, 0), 30);
+        due("survey(0210, 3)", yard.survey(0210L, 3), 2);
+        due("chain(0210, 3)", yard.chain(0210L, 3), MISSING);
+        due("told(2)", yard.told(2), 2);
+        due("lay(8, 1)", yard.lay(8, 1), BAD);
     }
 }
